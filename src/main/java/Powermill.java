@@ -527,11 +527,13 @@ public final class Powermill {
 
     // ---- bits and doubles
 
-    /** How often a size above 0 and below 2 to the power of 53 is doubled to be at least 2 to the power of 52. */
+    /** How often a size above 0 and below 2 to the power of 53 can be doubled so that it stays below that. */
     private static int doublings(long size) {
         int places = 0;
-        while (places < 52 && (size << places) < TWO_TO_52) {
-            places++;
+        for (int step = 32; step > 0; step >>= 1) {
+            if ((size << places) < (1L << (53 - step))) {
+                places += step;
+            }
         }
         return places;
     }
