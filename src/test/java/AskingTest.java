@@ -21,21 +21,8 @@ public final class AskingTest {
         check.finish("AskingTest");
     }
 
-    /** Slots: 0, 12, -5, a quarter, 2 to the powers of 52, 53 and -1000, and -6 to the power of 33. */
-    private static Powermill filled() {
-        Powermill mill = new Powermill();
-        mill.put(1, 12);
-        mill.put(2, -5);
-        mill.twoTo(3, -2);
-        mill.twoTo(4, 52);
-        mill.twoTo(5, 53);
-        mill.twoTo(6, -1000);
-        mill.power(7, -6, 33);
-        return mill;
-    }
-
     private static void promises9To11Parts() {
-        Powermill mill = filled();
+        Powermill mill = Trial.filled();
         int[] signs = {0, 1, -1, 1, 1, 1, 1, -1};
         long[] odds = {0, 3, 5, 1, 1, 1, 1, 5559060566555523L};
         int[] shifts = {0, 2, 0, -2, 52, 53, -1000, 33};
@@ -52,7 +39,7 @@ public final class AskingTest {
     }
 
     private static void promise12Bits() {
-        Powermill mill = filled();
+        Powermill mill = Trial.filled();
         double[] numbers = {0, 12, -5, 0.25, 0x1p52, 0x1p53, 0x1p-1000, -5559060566555523.0 * 0x1p33};
         for (int slot = 0; slot < 8; slot++) {
             check.due("bits(" + slot + ")", mill.bits(slot), Double.doubleToLongBits(numbers[slot]));
@@ -66,7 +53,7 @@ public final class AskingTest {
     }
 
     private static void promise13IsWhole() {
-        Powermill mill = filled();
+        Powermill mill = Trial.filled();
         boolean[] wholes = {true, true, true, false, true, true, false, true};
         for (int slot = 0; slot < 8; slot++) {
             check.due("isWhole(" + slot + ")", mill.isWhole(slot), wholes[slot]);
@@ -80,7 +67,7 @@ public final class AskingTest {
     }
 
     private static void promise14Whole() {
-        Powermill mill = filled();
+        Powermill mill = Trial.filled();
         check.due("whole(0)", mill.whole(0), 0);
         check.due("whole(1)", mill.whole(1), 12);
         check.due("whole(2)", mill.whole(2), -5);
@@ -104,7 +91,7 @@ public final class AskingTest {
     }
 
     private static void promise15Compare() {
-        Powermill mill = filled();
+        Powermill mill = Trial.filled();
         int[] rising = {7, 2, 0, 6, 3, 1, 4, 5};
         for (int first = 0; first < 8; first++) {
             for (int second = 0; second < 8; second++) {
@@ -127,7 +114,7 @@ public final class AskingTest {
     }
 
     private static void promise16Rank() {
-        Powermill mill = filled();
+        Powermill mill = Trial.filled();
         int[] ranks = {2, 5, 1, 4, 6, 7, 3, 0};
         for (int slot = 0; slot < 8; slot++) {
             check.due("rank(" + slot + ")", mill.rank(slot), ranks[slot]);
@@ -143,7 +130,7 @@ public final class AskingTest {
     }
 
     private static void promise17At() {
-        Powermill mill = filled();
+        Powermill mill = Trial.filled();
         int[] rising = {7, 2, 0, 6, 3, 1, 4, 5};
         for (int place = 0; place < 8; place++) {
             check.due("at(" + place + ")", mill.at(place), rising[place]);
@@ -177,7 +164,7 @@ public final class AskingTest {
     }
 
     private static void promise18Log() {
-        Powermill mill = filled();
+        Powermill mill = Trial.filled();
         check.due("log(2, 12)", mill.log(2, 1), 3);
         check.due("log(12, 12)", mill.log(12, 1), 1);
         check.due("log(13, 12)", mill.log(13, 1), 0);
@@ -195,7 +182,7 @@ public final class AskingTest {
     }
 
     private static void promise19Digits() {
-        Powermill mill = filled();
+        Powermill mill = Trial.filled();
         check.due("digits(2, 0)", mill.digits(2, 0), 1);
         check.due("digits(2, 12)", mill.digits(2, 1), 4);
         check.due("digits(12, 12)", mill.digits(12, 1), 2);
@@ -207,7 +194,7 @@ public final class AskingTest {
     }
 
     private static void promise20Digit() {
-        Powermill mill = filled();
+        Powermill mill = Trial.filled();
         int[] twelve = {0, 0, 1, 1, 0, 0};
         for (int place = 0; place < twelve.length; place++) {
             check.due("digit(2, 12, " + place + ")", mill.digit(2, 1, place), twelve[place]);
@@ -228,7 +215,7 @@ public final class AskingTest {
     }
 
     private static void promise21Root() {
-        Powermill mill = filled();
+        Powermill mill = Trial.filled();
         check.due("root(1, 0)", mill.root(1, 0), 0);
         check.due("root(53, 0)", mill.root(53, 0), 0);
         check.due("root(1, 12)", mill.root(1, 1), 12);

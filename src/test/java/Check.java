@@ -37,6 +37,25 @@ final class Check {
         due(what, got ? 1 : 0, want ? 1 : 0);
     }
 
+    void due(String what, String got, String want) {
+        if (got.equals(want)) {
+            right++;
+        } else {
+            wrong++;
+            if (wrong <= 50) {
+                System.out.println(what + ": " + got + ", due is " + want);
+            }
+        }
+    }
+
+    int count() {
+        return right + wrong;
+    }
+
+    int wrong() {
+        return wrong;
+    }
+
     /** The call has to throw just this exception, not one of a class below it. */
     void refused(String what, Class<? extends RuntimeException> want, Call call) {
         String outcome = outcome(call);

@@ -1,6 +1,7 @@
 import java.math.BigDecimal;
 import java.math.BigInteger;
 import java.util.ArrayDeque;
+import java.util.Iterator;
 import java.util.NoSuchElementException;
 
 /** The document told a second time, over BigInteger, BigDecimal and StrictMath: what each call is due to answer. */
@@ -45,6 +46,10 @@ final class Model {
             return StrictMath.scalb(signedOdd.doubleValue(), shift);
         }
 
+        String parts() {
+            return signedOdd.signum() + " " + signedOdd.abs() + " " + shift;
+        }
+
         /** The number times 2 to the power of 1000, which is whole. */
         BigInteger lifted() {
             return signedOdd.shiftLeft(shift + 1000);
@@ -68,6 +73,21 @@ final class Model {
         for (int slot = 0; slot < 8; slot++) {
             slots[slot] = Number.of(BigInteger.ZERO);
         }
+    }
+
+    /** All that is held and kept, in the words of Trial.state. */
+    String state() {
+        StringBuilder text = new StringBuilder();
+        for (int slot = 0; slot < 8; slot++) {
+            text.append(slots[slot].parts()).append(", ");
+        }
+        text.append("kept ").append(changes.size());
+        Iterator<Change> latestFirst = changes.descendingIterator();
+        while (latestFirst.hasNext()) {
+            Change change = latestFirst.next();
+            text.append(", ").append(change.slot).append(" back to ").append(change.held.parts());
+        }
+        return text.append(", then throws NoSuchElementException").toString();
     }
 
     private static void slotIs(boolean good) {
