@@ -1,74 +1,58 @@
+import java.io.IOException;
 import java.lang.reflect.Constructor;
 import java.lang.reflect.Field;
 import java.lang.reflect.Method;
 import java.lang.reflect.Modifier;
+import java.nio.file.Files;
+import java.nio.file.Path;
 import java.util.ArrayList;
-import java.util.Arrays;
 import java.util.HashSet;
 import java.util.List;
 import java.util.Set;
 import java.util.TreeSet;
+import java.util.regex.Matcher;
+import java.util.regex.Pattern;
 
 /** The public face, as the document tells it, and the rules of LANGUAGE.md that reflection can see. */
 public final class FaceTest {
-    private static final String INDEX = " IndexOutOfBoundsException";
-    private static final String ARGUMENT = " IllegalArgumentException";
-    private static final String STATE = " IllegalStateException";
-    private static final String RECKONED = " ArithmeticException";
-    private static final String TOLD = " UnsupportedOperationException";
-
-    private static final String[] FACE = {
-        "int put(int,int)" + INDEX + ARGUMENT,
-        "int power(int,int,int)" + INDEX + ARGUMENT + TOLD,
-        "int twoTo(int,int)" + INDEX + ARGUMENT,
-        "int raise(int,int,int)" + INDEX + ARGUMENT + STATE + RECKONED + TOLD,
-        "int copy(int,int)" + INDEX,
-        "int undo() NoSuchElementException",
-        "int kept()",
-        "int sign(int)" + INDEX,
-        "long odd(int)" + INDEX,
-        "int shift(int)" + INDEX,
-        "long bits(int)" + INDEX,
-        "boolean isWhole(int)" + INDEX,
-        "long whole(int)" + INDEX + STATE,
-        "int compare(int,int)" + INDEX,
-        "int rank(int)" + INDEX,
-        "int at(int)" + INDEX,
-        "int log(int,int)" + INDEX + ARGUMENT + STATE + RECKONED,
-        "int digits(int,int)" + INDEX + ARGUMENT + STATE,
-        "int digit(int,int,int)" + INDEX + ARGUMENT + STATE,
-        "int root(int,int)" + INDEX + ARGUMENT + STATE + RECKONED,
-        "long sum(int,int)" + ARGUMENT + TOLD,
-        "int rest(int,int,int)" + ARGUMENT + TOLD,
-        "boolean isFermat(int,int)" + ARGUMENT + TOLD,
-        "boolean isChain(int,int)" + ARGUMENT + TOLD,
-        "boolean addsUp(int,int,int)" + ARGUMENT + TOLD,
-        "boolean isNested(int,int,int)" + ARGUMENT + TOLD,
-        "long rootBits(int)" + ARGUMENT,
-        "boolean isRoot(int)" + ARGUMENT,
-        "long rootAt(int,int)" + ARGUMENT,
-        "long backBits(int)" + ARGUMENT,
-        "boolean isBack(int)" + ARGUMENT,
-        "long squareBits(int)" + INDEX + TOLD,
-        "boolean isTimes(int)" + INDEX + TOLD,
-        "boolean isSound()",
-    };
+    private static final Path DOCUMENT = Path.of("../shared/DOC.md");
+    private static final Path PROGRAM = Path.of("src/main/java/Powermill.java");
+    private static final int METHODS = 34;
+    private static final int HEADINGS = 7;
+    private static final Pattern METHOD = Pattern.compile("    public (?:int|long|boolean) (\\w+)\\(");
 
     private static final Check check = new Check();
 
-    public static void main(String[] args) {
+    public static void main(String[] args) throws IOException {
         check.due("the class is public and final",
                 Powermill.class.getModifiers() == (Modifier.PUBLIC | Modifier.FINAL), true);
         Constructor<?>[] constructors = Powermill.class.getDeclaredConstructors();
         check.due("constructors", constructors.length, 1);
         check.due("the constructor is public", constructors[0].getModifiers(), Modifier.PUBLIC);
         check.due("the constructor's parameters", constructors[0].getParameterCount(), 0);
-        methods();
+        methods(new TreeSet<>(face()));
         fields();
+        headings();
         check.finish("FaceTest");
     }
 
-    private static void methods() {
+    /** The methods that the document's section 'The public face' writes out, as told(..) tells a method. */
+    private static List<String> face() throws IOException {
+        List<String> methods = new ArrayList<>();
+        for (String line : Files.readAllLines(DOCUMENT)) {
+            if (line.startsWith("    public ") && !line.contains(" Powermill(")) {
+                String told = line.strip().replaceFirst("^public ", "").replace(";", "");
+                String parameters = told.substring(told.indexOf('('), told.indexOf(')') + 1);
+                String types = parameters.replaceAll("(\\w+) \\w+", "$1").replace(", ", ",");
+                String thrown = told.substring(told.indexOf(')') + 1).replace(" throws", "").replace(",", "");
+                methods.add(told.substring(0, told.indexOf('(')) + types + thrown);
+            }
+        }
+        check.due("methods in the document", methods.size(), METHODS);
+        return methods;
+    }
+
+    private static void methods(Set<String> due) {
         Set<String> found = new TreeSet<>();
         Set<String> publicNames = new HashSet<>();
         List<Method> hidden = new ArrayList<>();
@@ -81,7 +65,6 @@ public final class FaceTest {
             }
             check.due("parameters of " + method.getName(), method.getParameterCount() <= 7, true);
         }
-        Set<String> due = new TreeSet<>(Arrays.asList(FACE));
         for (String method : due) {
             check.due("the face has " + method, found.contains(method), true);
         }
@@ -113,5 +96,37 @@ public final class FaceTest {
             check.due(field.getName() + " is no static state",
                     !Modifier.isStatic(modifiers) || Modifier.isFinal(modifiers), true);
         }
+    }
+
+    /** The document says which heading stands ahead of which calls; the program's public methods stand so. */
+    private static void headings() throws IOException {
+        StringBuilder due = new StringBuilder();
+        int headings = 0;
+        for (String line : Files.readAllLines(DOCUMENT)) {
+            if (line.startsWith("Ahead of the calls ")) {
+                int end = line.indexOf(" the interface says: ");
+                String calls = line.substring("Ahead of the calls ".length(), end).replace("`", "").replace(",", "");
+                due.append(line.substring(line.indexOf("----")).replaceFirst("\\.$", ""));
+                due.append(": ").append(calls).append('\n');
+                headings++;
+            }
+        }
+        check.due("headings in the document", headings, HEADINGS);
+        check.due("the headings of the program, and the calls behind them", headingsOfProgram(), due.toString());
+    }
+
+    private static String headingsOfProgram() throws IOException {
+        StringBuilder text = new StringBuilder();
+        String heading = "";
+        for (String line : Files.readAllLines(PROGRAM)) {
+            Matcher method = METHOD.matcher(line);
+            if (line.startsWith("    // ---- ")) {
+                heading = line.substring("    // ".length());
+            } else if (method.lookingAt()) {
+                boolean first = text.indexOf(heading + ": ") < 0;
+                text.append(first ? "\n" + heading + ": " : " ").append(method.group(1));
+            }
+        }
+        return text.append('\n').substring(1);
     }
 }

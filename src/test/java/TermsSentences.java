@@ -4,7 +4,7 @@ import java.util.ArrayList;
 import java.util.List;
 import java.util.function.Supplier;
 
-/** The section 'Terms', but for its last paragraph: Theorem, Numbers, Powers, Digits, Keeping. */
+/** 'What it is', and of 'Terms' all but the last paragraph: Theorem, Numbers, Powers, Digits, Keeping. */
 final class TermsSentences {
     private final Book book;
     private final Check check;
@@ -18,13 +18,34 @@ final class TermsSentences {
 
     void tell() {
         book.section("What it is");
-        book.says("An object is used for at most 512 calls after it has been made", this::calls512);
+        book.says("Powers of whole numbers, and square roots, over java.lang.StrictMath (pow and sqrt) of the JDK; "
+                + "what is told here is what these promise, and what is told of powers by 0.5 and by 2.",
+                this::asStrictMath);
+        book.says("An object is used for at most 512 calls after it has been made; what later calls answer is free.",
+                this::calls512);
         book.section("Terms");
         theorem();
         numbers();
         powers();
         digits();
         keeping();
+    }
+
+    private void asStrictMath() {
+        for (int base = -64; base <= 64; base++) {
+            for (int exponent = 0; exponent <= 64 && Exact.isTold(base, exponent); exponent++) {
+                check.due(base + " to the power of " + exponent + ", by pow", Trial.power(base, exponent).get().bits(0),
+                        Double.doubleToLongBits(StrictMath.pow(base, exponent)));
+            }
+        }
+        for (int exponent = -1000; exponent <= 1000; exponent++) {
+            check.due("2 to the power of " + exponent + ", by pow", Trial.two(exponent).get().bits(0),
+                    Double.doubleToLongBits(StrictMath.pow(2, exponent)));
+        }
+        for (int whole = 0; whole <= 4095; whole++) {
+            check.due("the root of " + whole + ", by sqrt", Trial.fresh().rootBits(whole),
+                    Double.doubleToLongBits(StrictMath.sqrt(whole)));
+        }
     }
 
     private void calls512() {
